@@ -7,8 +7,14 @@ final class Check {
 
     private static int wrong;
     private static int checked;
+    private static String sentence = "";
 
     private Check() {
+    }
+
+    /** Names the sentence of the document that the checks from here on stand for. */
+    static void sentence(String text) {
+        sentence = "[" + text + "] ";
     }
 
     static void due(String what, long got, long want) {
@@ -16,7 +22,7 @@ final class Check {
         if (got != want) {
             wrong++;
             if (wrong <= 40) {
-                System.out.println(what + ": answered " + got + ", due is " + want);
+                System.out.println(sentence + what + ": answered " + got + ", due is " + want);
             }
         }
     }
@@ -25,20 +31,29 @@ final class Check {
         due(what, got ? 1 : 0, want ? 1 : 0);
     }
 
+    /** The name of the exception that the call throws, or "nothing". */
+    private static String thrownBy(Call call) {
+        try {
+            call.run();
+        } catch (RuntimeException e) {
+            return e.getClass().getSimpleName();
+        }
+        return "nothing";
+    }
+
+    static void thrown(String what, Class<? extends RuntimeException> want, Call call) {
+        String thrown = thrownBy(call);
+        due(what + " throws " + thrown + " (due is " + want.getSimpleName() + ")",
+                thrown.equals(want.getSimpleName()), true);
+    }
+
     /** The call is due to throw exactly this class, and to leave the parser as it was. */
     static void refused(AdventureParser p, String what, Class<? extends RuntimeException> want,
             Call call) {
         long before = p.digest();
         int saved = p.savedStates();
         int firstError = p.firstError();
-        String thrown = "nothing";
-        try {
-            call.run();
-        } catch (RuntimeException e) {
-            thrown = e.getClass().getSimpleName();
-        }
-        due(what + " throws " + thrown + " (due is " + want.getSimpleName() + ")",
-                thrown.equals(want.getSimpleName()), true);
+        thrown(what, want, call);
         due(what + ": digest afterwards", p.digest(), before);
         due(what + ": saved states afterwards", p.savedStates(), saved);
         due(what + ": first error afterwards", p.firstError(), firstError);
