@@ -103,6 +103,12 @@ public final class BoundsOfQuestionsTest {
         Check.said(q, "drop key", 1);
         Check.said(q, "take key", -1);
         Check.due("the next command is asked about anew", q.candidates(), 0b11);
+        AdventureParser r = Worlds.with("red box 4", "blue box 4");
+        Check.said(r, "open all", 2);
+        Check.said(r, "put box in box", -1);
+        Check.due("the target", r.candidates(), 0b11);
+        Check.said(r, "red", -3);
+        Check.due("the red box", r.place(0), 4);
     }
 
     /** The first, the last and every other description of the longest list, and the target. */

@@ -1,3 +1,4 @@
+import java.util.Map;
 import java.util.function.Consumer;
 import java.util.function.Supplier;
 
@@ -16,12 +17,9 @@ public final class RefusedCallsTest {
 
     public static void main(String[] args) {
         Check.sentence("A call that throws an exception changes nothing");
-        everywhere("a new one", AdventureParser::new);
-        everywhere("a quiet one", RefusedCallsTest::quiet);
-        everywhere("an asking one", RefusedCallsTest::asking);
-        everywhere("one with a full buffer", RefusedCallsTest::withFullBuffer);
-        everywhere("one with 12 objects", RefusedCallsTest::full);
-        everywhere("one with undone states", RefusedCallsTest::undone);
+        for (Map.Entry<String, Supplier<AdventureParser>> situation : Situations.all().entrySet()) {
+            everywhere(situation.getKey(), situation.getValue());
+        }
         nothingToEnter();
         nothingToUndo();
         bufferFull();
@@ -41,67 +39,15 @@ public final class RefusedCallsTest {
         Check.finish("RefusedCallsTest");
     }
 
-    private static AdventureParser quiet() {
-        AdventureParser p = Worlds.with("red box 0", "red key 5", "blue key 4", "red bag 3");
-        Check.say(p, "open box");
-        Check.say(p, "take red key");
-        Check.type(p, "take the ");
-        return p;
-    }
-
-    private static AdventureParser asking() {
-        AdventureParser p = Worlds.with("red key 0", "blue key 0", "red box 4", "red lamp 0");
-        Check.say(p, "take box and lamp");
-        Check.say(p, "take lamp");
-        Check.say(p, "take key and key");
-        Check.say(p, "blue");
-        Check.due("candidates", p.candidates(), 0b0011);
-        Check.type(p, "the red key");
-        return p;
-    }
-
-    private static AdventureParser withFullBuffer() {
-        AdventureParser p = Worlds.with("red key 0", "red lamp 0", "blue lamp 3", "red box 1");
-        Check.type(p, Worlds.LONGEST);
-        return p;
-    }
-
-    /** The box 0 and the hand are full, the bag 1 holds one object; the box 2 is 12th. */
-    private static AdventureParser full() {
-        AdventureParser p = Worlds.with("red box 4", "red bag 4", "red ball 5", "blue ball 5",
-                "old ball 5", "big ball 5", "red lamp 6", "red key 4", "blue key 4", "old key 4");
-        Worlds.add(p, "big key 4");
-        Worlds.add(p, "blue box 0");
-        Check.due("objects", p.objects(), 12);
-        Check.due("objects carried", p.objectsAt(4), 6);
-        Check.due("objects in the box", p.objectsAt(5), 4);
-        Check.type(p, "east");
-        return p;
-    }
-
-    /** Behind undo() there are free rows for saved states, which no call may take in vain. */
-    private static AdventureParser undone() {
-        AdventureParser p = quiet();
-        Check.say(p, "drop key");
-        p.moveTo(2);
-        p.moveTo(1);
-        p.undo();
-        p.undo();
-        Check.due("candidates", p.candidates(), 0b0110);
-        Check.type(p, "blue");
-        return p;
-    }
-
     private static void vain(String what, Supplier<AdventureParser> situation,
             Class<? extends RuntimeException> want, Consumer<AdventureParser> call) {
-        AdventureParser p = situation.get();
-        AdventureParser untouched = situation.get();
-        for (int times = 0; times < 2; times++) {
-            Check.thrown(what, want, () -> call.accept(p));
-        }
-        String told = Trace.toTheEnd(p);
-        String due = Trace.toTheEnd(untouched);
-        Check.due(what + " changes nothing: " + told + "; due is " + due, told.equals(due), true);
+        Trace.same(what + " changes nothing", () -> {
+            AdventureParser p = situation.get();
+            for (int times = 0; times < 2; times++) {
+                Check.thrown(what, want, () -> call.accept(p));
+            }
+            return p;
+        }, situation);
     }
 
     /** What is refused in every state. */
@@ -145,98 +91,74 @@ public final class RefusedCallsTest {
         }
     }
 
-    private static AdventureParser typed(AdventureParser p, String text) {
-        Check.type(p, text);
-        return p;
+    private static void textsRefused(String where, Supplier<AdventureParser> situation,
+            String... texts) {
+        for (String text : texts) {
+            Supplier<AdventureParser> typed = () -> Situations.typed(situation.get(), text);
+            vain(where + ": enter of '" + text + "'", typed, ARGUMENT, AdventureParser::enter);
+            vain(where + ": ifEntered of '" + text + "'", typed, ARGUMENT, AdventureParser::ifEntered);
+        }
     }
 
     private static void nothingToEnter() {
-        String[] texts = {"", " ", "take", "take ", "take key and", "put key", "put key in", "red",
-            "the red", "east ", " east", "~", Worlds.LONGEST_BEGINNING};
-        for (String text : texts) {
-            vain("enter of '" + text + "'", () -> typed(quiet(), text), ARGUMENT,
-                    AdventureParser::enter);
-            vain("ifEntered of '" + text + "'", () -> typed(quiet(), text), ARGUMENT,
-                    AdventureParser::ifEntered);
+        for (Map.Entry<String, Supplier<AdventureParser>> situation : Situations.all().entrySet()) {
+            textsRefused(situation.getKey(), situation.getValue(), "", " ", "~", "take", "take ",
+                    "take key and", "put key", "put key in", "east ", " east", "the", "one", "key",
+                    "red ", "red one key", "red and", Worlds.LONGEST_BEGINNING);
         }
-        for (String text : new String[] {"", "the", "one", "key", "red ", "red one key", "red and"}) {
-            vain("enter of '" + text + "' when asked", () -> typed(asking(), text), ARGUMENT,
-                    AdventureParser::enter);
-            vain("ifEntered of '" + text + "' when asked", () -> typed(asking(), text), ARGUMENT,
-                    AdventureParser::ifEntered);
-        }
-    }
-
-    private static AdventureParser undoneToTheEnd() {
-        AdventureParser p = quiet();
-        while (p.savedStates() > 0) {
-            p.undo();
-        }
-        return p;
+        textsRefused("not asking", Situations::quiet, "red", "the red", "red one", "the red key");
     }
 
     private static void nothingToUndo() {
         vain("undo of a new one", AdventureParser::new, STATE, AdventureParser::undo);
-        vain("undo behind all", RefusedCallsTest::undoneToTheEnd, STATE, AdventureParser::undo);
+        vain("undo behind all", Situations::undoneToTheEnd, STATE, AdventureParser::undo);
     }
 
     private static void bufferFull() {
         for (int code : new int[] {32, 97, 126}) {
-            vain("append " + code, RefusedCallsTest::withFullBuffer, STATE, p -> p.append(code));
+            vain("append " + code, Situations::withFullBuffer, STATE, p -> p.append(code));
         }
         for (int word = 0; word < 25; word++) {
             int number = word;
-            vain("appendWord " + word, RefusedCallsTest::withFullBuffer, STATE,
+            vain("appendWord " + word, Situations::withFullBuffer, STATE,
                     p -> p.appendWord(number));
             // The space before a refused word must not stay behind.
             String text = Worlds.LONGEST.substring(0, 60 - Texts.ALL_WORDS[word].length());
             if (!text.endsWith(" ")) {
                 vain("appendWord " + word + " behind '" + text + "'",
-                        () -> typed(withFullBuffer(), text), STATE, p -> p.appendWord(number));
+                        () -> Situations.typed(Situations.asking(), text), STATE,
+                        p -> p.appendWord(number));
             }
         }
     }
 
     private static void objectsFull() {
         for (int place : new int[] {0, 1, 2, 3, 6}) {
-            vain("a thirteenth at " + place, RefusedCallsTest::full, STATE,
+            vain("a thirteenth at " + place, Situations::full, STATE,
                     p -> p.addObject(3, 0, place));
         }
-        vain("a thirteenth in the twelfth", RefusedCallsTest::full, STATE, p -> p.addObject(3, 0, 16));
-        vain("a thirteenth, a box", RefusedCallsTest::full, STATE, p -> p.addObject(1, 3, 0));
+        vain("a thirteenth in the twelfth", Situations::full, STATE, p -> p.addObject(3, 0, 16));
+        vain("a thirteenth, a box", Situations::full, STATE, p -> p.addObject(1, 3, 0));
     }
 
     private static void sameObject() {
         for (int place : new int[] {0, 1, 2, 3, 4, 5}) {
-            vain("the blue key again, at " + place, RefusedCallsTest::quiet, STATE,
+            vain("the blue key again, at " + place, Situations::quiet, STATE,
                     p -> p.addObject(2, 1, place));
-            vain("the red key again, at " + place, RefusedCallsTest::asking, STATE,
-                    p -> p.addObject(2, 0, place == 5 ? 7 : place));
+            vain("the red key again, at " + place, Situations::asking, STATE,
+                    p -> p.addObject(2, 0, place));
         }
-        vain("the red box again", RefusedCallsTest::quiet, STATE, p -> p.addObject(1, 0, 0));
-    }
-
-    /** The hand and the bag 0 are full, with 11 objects in all; a question is open. */
-    private static AdventureParser fullHandAndBag() {
-        AdventureParser p = Worlds.with("red bag 4", "red ball 5", "blue ball 5", "old ball 5",
-                "big ball 5", "red key 4", "blue key 4", "old key 4", "big key 4", "red coin 4",
-                "blue coin 0");
-        Check.due("objects carried", p.objectsAt(4), 6);
-        Check.due("objects in the bag", p.objectsAt(5), 4);
-        Check.say(p, "drop key");
-        Check.due("candidates", p.candidates(), 0b00111100000);
-        Check.type(p, "old");
-        return p;
+        vain("the red box again", Situations::quiet, STATE, p -> p.addObject(1, 0, 0));
     }
 
     private static void handFull() {
-        vain("a seventh carried", RefusedCallsTest::fullHandAndBag, STATE, p -> p.addObject(0, 0, 4));
-        vain("a seventh carried, a box", RefusedCallsTest::fullHandAndBag, STATE,
+        vain("a seventh carried", Situations::fullHandAndBag, STATE, p -> p.addObject(0, 0, 4));
+        vain("a seventh carried, a box", Situations::fullHandAndBag, STATE,
                 p -> p.addObject(1, 3, 4));
     }
 
     private static void containerFull() {
-        vain("a fifth inside", RefusedCallsTest::fullHandAndBag, STATE, p -> p.addObject(0, 0, 5));
+        vain("a fifth inside", Situations::fullHandAndBag, STATE, p -> p.addObject(0, 0, 5));
     }
 
     /** Which arguments are refused whatever the state; in this one the place 4 is full. */
@@ -248,51 +170,51 @@ public final class RefusedCallsTest {
     }
 
     private static void argumentBeforeTwelve() {
-        refusedFirst("a thirteenth", RefusedCallsTest::full, new int[] {6, 0, 0}, new int[] {-1, 0, 0},
+        refusedFirst("a thirteenth", Situations::full, new int[] {6, 0, 0}, new int[] {-1, 0, 0},
                 new int[] {3, 4, 0}, new int[] {3, -1, 0}, new int[] {3, 0, -1}, new int[] {3, 0, 17},
                 new int[] {3, 0, 7}, new int[] {3, 0, 15}, new int[] {1, 3, 16}, new int[] {5, 3, 6});
     }
 
     private static void argumentBeforeTheSame() {
-        refusedFirst("the same again", RefusedCallsTest::quiet, new int[] {2, 0, -1},
+        refusedFirst("the same again", Situations::quiet, new int[] {2, 0, -1},
                 new int[] {2, 0, 17}, new int[] {2, 0, 6}, new int[] {2, 1, 7}, new int[] {2, 1, 9},
-                new int[] {1, 0, 5}, new int[] {1, 0, 8}, new int[] {5, 0, 5}, new int[] {5, 0, 8});
+                new int[] {1, 0, 5}, new int[] {1, 0, 10}, new int[] {5, 0, 5}, new int[] {5, 0, 10});
     }
 
     private static void argumentBeforeFullPlaces() {
-        refusedFirst("a seventh carried", RefusedCallsTest::fullHandAndBag, new int[] {6, 0, 4},
+        refusedFirst("a seventh carried", Situations::fullHandAndBag, new int[] {6, 0, 4},
                 new int[] {-1, 0, 4}, new int[] {0, 4, 4}, new int[] {0, -1, 4});
-        refusedFirst("a fifth inside", RefusedCallsTest::fullHandAndBag, new int[] {6, 0, 5},
+        refusedFirst("a fifth inside", Situations::fullHandAndBag, new int[] {6, 0, 5},
                 new int[] {-1, 0, 5}, new int[] {0, 4, 5}, new int[] {0, -1, 5}, new int[] {1, 0, 5},
                 new int[] {5, 1, 5});
     }
 
     private static void argumentBeforeEverything() {
-        refusedFirst("a thirteenth, the same, in a full box", RefusedCallsTest::full,
+        refusedFirst("a thirteenth, the same, in a full box", Situations::full,
                 new int[] {1, 0, 5}, new int[] {5, 0, 5}, new int[] {1, 1, 5});
-        refusedFirst("a seventh and thirteenth", RefusedCallsTest::full, new int[] {6, 0, 4},
+        refusedFirst("a seventh and thirteenth", Situations::full, new int[] {6, 0, 4},
                 new int[] {0, 4, 4}, new int[] {-1, -1, 4});
-        refusedFirst("the same inside the full bag", RefusedCallsTest::fullHandAndBag,
+        refusedFirst("the same inside the full bag", Situations::fullHandAndBag,
                 new int[] {5, 0, 5});
     }
 
     private static void severalStates() {
-        vain("the same, thirteenth, seventh", RefusedCallsTest::full, STATE, p -> p.addObject(2, 0, 4));
-        vain("the same, thirteenth, fifth", RefusedCallsTest::full, STATE, p -> p.addObject(4, 0, 5));
-        vain("the same, seventh", RefusedCallsTest::fullHandAndBag, STATE, p -> p.addObject(2, 0, 4));
-        vain("the same, fifth", RefusedCallsTest::fullHandAndBag, STATE, p -> p.addObject(4, 0, 5));
+        vain("the same, thirteenth, seventh", Situations::full, STATE, p -> p.addObject(2, 0, 4));
+        vain("the same, thirteenth, fifth", Situations::full, STATE, p -> p.addObject(4, 0, 5));
+        vain("the same, seventh", Situations::fullHandAndBag, STATE, p -> p.addObject(2, 0, 4));
+        vain("the same, fifth", Situations::fullHandAndBag, STATE, p -> p.addObject(4, 0, 5));
     }
 
     private static void characterBeforeFullBuffer() {
         for (int code : new int[] {31, 127, 0, -1, MIN, MAX}) {
-            vain("append " + code + " behind 60", RefusedCallsTest::withFullBuffer, ARGUMENT,
+            vain("append " + code + " behind 60", Situations::withFullBuffer, ARGUMENT,
                     p -> p.append(code));
         }
     }
 
     private static void wordBeforeFullBuffer() {
         for (int word : new int[] {-1, 25, MIN, MAX}) {
-            vain("appendWord " + word + " behind 60", RefusedCallsTest::withFullBuffer, INDEX,
+            vain("appendWord " + word + " behind 60", Situations::withFullBuffer, INDEX,
                     p -> p.appendWord(word));
         }
     }

@@ -1,3 +1,5 @@
+import java.util.function.Supplier;
+
 /** Everything that can be learnt of a parser, as a text. */
 final class Trace {
     private Trace() {
@@ -42,6 +44,34 @@ final class Trace {
             }
         }
         return text.toString();
+    }
+
+    /**
+     * What the saved states and the open question's answer come to, by as few methods as can be: what
+     * a call spoils in passing must not be spoilt in the other parser by looking.
+     */
+    static String briefly(AdventureParser p) {
+        StringBuilder text = new StringBuilder();
+        text.append("length ").append(p.clearBuffer());
+        if (p.candidates() != 0) {
+            p.appendWord(6);
+            text.append(" red ").append(p.enter());
+        }
+        text.append(" digest ").append(p.digest());
+        while (p.savedStates() > 0) {
+            text.append(" undone ").append(p.undo()).append(' ').append(p.digest());
+        }
+        return text.toString();
+    }
+
+    /** Both parsers are due to tell the same of themselves, to the last saved state. */
+    static void same(String what, Supplier<AdventureParser> parser, Supplier<AdventureParser> due) {
+        same(what, toTheEnd(parser.get()), toTheEnd(due.get()));
+        same(what, briefly(parser.get()), briefly(due.get()));
+    }
+
+    private static void same(String what, String told, String due) {
+        Check.due(what + ": " + told + "; due is " + due, told.equals(due), true);
     }
 
     private static void answer(AdventureParser p, StringBuilder text) {
