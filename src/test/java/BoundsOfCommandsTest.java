@@ -75,12 +75,14 @@ public final class BoundsOfCommandsTest {
         Check.said(p, "drop key and key and key and key and key and key and box", 2);
         Check.said(p, "open bag and bag and bag and bag and bag and bag and box", 2);
         Check.said(p, "close bag and bag and bag and bag and bag and bag and box", 2);
-        Check.said(p, "open box", 1);
-        Check.said(p, "take all but box and bag and blue ball", 3);
-        Check.said(p, "put key and key and key and key and key and lamp in box", 2);
-        Check.due("the lamp is in the box", p.place(0), 7);
-        Check.due("the key is in the box", p.place(1), 7);
-        Check.due("the coin is not", p.place(4), 4);
+        AdventureParser q = Worlds.with("red lamp 4", "red key 0", "red box 0", "red bag 4",
+                "red coin 0", "red ball 0", "blue ball 0");
+        Check.said(q, "open box", 1);
+        Check.said(q, "take all but box and bag and blue ball", 3);
+        Check.said(q, "put key and key and key and key and key and lamp in box", 2);
+        Check.due("the lamp is in the box", q.place(0), 7);
+        Check.due("the key is in the box", q.place(1), 7);
+        Check.due("the coin is not", q.place(4), 4);
     }
 
     private static void descriptionParts() {
@@ -92,10 +94,10 @@ public final class BoundsOfCommandsTest {
             Check.said(p, "open box", 1);
             Check.said(p, "put " + description + " in the box", 1);
         }
-        AdventureParser p = Worlds.with("red key 0", "red box 0");
         String[] wrong = {"the", "red", "the red", "red the key", "the the key", "red red key",
             "red blue key", "key red", "key key", "key the"};
         for (String description : wrong) {
+            AdventureParser p = Worlds.with("red key 0", "red box 0");
             Check.unsaid(p, "take " + description);
             Check.unsaid(p, "put key in " + description);
         }
@@ -103,9 +105,9 @@ public final class BoundsOfCommandsTest {
 
     private static void lastPartMissing() {
         Check.sentence("put, then objects as above, then \"in\", and then \"it\" or a description");
-        AdventureParser p = Worlds.with("red key 4", "red box 0");
         String[] objects = {"key", "it", "them", "all", "all but box"};
         for (String some : objects) {
+            AdventureParser p = Worlds.with("red key 4", "red box 0");
             Check.unsaid(p, "put " + some);
             Check.unsaid(p, "put " + some + " in");
             Check.unsaid(p, "put " + some + " in them");
@@ -113,6 +115,7 @@ public final class BoundsOfCommandsTest {
             Check.unsaid(p, "put " + some + " in box and box");
             Check.unsaid(p, "take " + some + " in box");
         }
+        AdventureParser p = Worlds.with("red key 4", "red box 0");
         Check.said(p, "open box", 1);
         Check.said(p, "put all but box in it", 1);
     }

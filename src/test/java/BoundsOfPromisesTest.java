@@ -577,16 +577,18 @@ public final class BoundsOfPromisesTest {
 
     private static void overflow() {
         Check.sentence("Promise 28: in long arithmetic with overflow");
-        AdventureParser p = new AdventureParser();
         int negative = 0;
         int positive = 0;
-        for (int count = 0; count < 12; count++) {
+        for (int count = 0; count <= 12; count++) {
+            AdventureParser p = new AdventureParser();
+            for (int k = 0; k < count; k++) {
+                Worlds.addThings(p, 1, k % 4);
+            }
             BigInteger exact = exactHash(p);
             Check.due("the hash needs more than 64 bits", exact.bitLength() > 64, true);
             Check.due("digest with " + count, p.digest(), exact.longValue());
             negative += p.digest() < 0 ? 1 : 0;
             positive += p.digest() > 0 ? 1 : 0;
-            Worlds.addThings(p, 1, count % 4);
         }
         Check.due("some are below 0", negative > 0, true);
         Check.due("some are above 0", positive > 0, true);
@@ -594,18 +596,19 @@ public final class BoundsOfPromisesTest {
 
     private static void digestOfTwelve() {
         Check.sentence("Promise 28: for each object its noun, adjective, place, and 1 if it is open");
-        AdventureParser p = Worlds.with("red box 0", "blue box 4", "old box 3", "red bag 0",
-                "red key 5", "blue key 5", "old key 6", "red ball 0", "blue ball 4", "old ball 2",
-                "red coin 8", "blue coin 0");
-        Check.due("digest", p.digest(), exactHash(p).longValue());
         String[] texts = {"open all", "take red key", "take ball and coin", "drop ball", "red", "red",
             "take them", "east", "drop all but box", "west", "close all"};
-        for (String text : texts) {
-            Check.type(p, text);
-            if (p.firstError() == text.length()) {
-                p.enter();
+        for (int count = 0; count <= texts.length; count++) {
+            AdventureParser p = Worlds.with("red box 0", "blue box 4", "old box 3", "red bag 0",
+                    "red key 5", "blue key 5", "old key 6", "red ball 0", "blue ball 4", "old ball 2",
+                    "red coin 8", "blue coin 0");
+            for (int k = 0; k < count; k++) {
+                Check.type(p, texts[k]);
+                if (p.firstError() == texts[k].length()) {
+                    p.enter();
+                }
             }
-            Check.due("digest after '" + text + "'", p.digest(), exactHash(p).longValue());
+            Check.due("digest after " + count, p.digest(), exactHash(p).longValue());
         }
     }
 

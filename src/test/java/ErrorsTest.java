@@ -92,7 +92,6 @@ public final class ErrorsTest {
     }
 
     private static void complete() {
-        AdventureParser p = new AdventureParser();
         String[] unfinished = {
             "", " ", "take", "take ", "take the", "take red", "take key and", "take key ", "put",
             "put key", "put key in", "put key in the", "put key in red", "put all", "put it", "put them",
@@ -100,7 +99,7 @@ public final class ErrorsTest {
             "red one", "east west", "take key in box", " east", "east ", "open it in it", "take key and"
         };
         for (String text : unfinished) {
-            Check.unsaid(p, text);
+            Check.unsaid(new AdventureParser(), text);
         }
         AdventureParser q = asking();
         for (String text : new String[] {"", "the", "one", "lamp", "the red ", "red red", "the one",

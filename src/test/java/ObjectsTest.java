@@ -131,16 +131,19 @@ public final class ObjectsTest {
     }
 
     private static void objectNumbers() {
-        AdventureParser p = new AdventureParser();
         for (int count = 0; count < 3; count++) {
+            AdventureParser p = new AdventureParser();
+            for (int k = 0; k < count; k++) {
+                p.addObject(1, k, 0);
+            }
             for (int object : new int[] {-1, count, count + 1, 12, MIN, MAX}) {
                 Check.index(p, "noun " + object, () -> p.noun(object));
                 Check.index(p, "adjective " + object, () -> p.adjective(object));
                 Check.index(p, "place " + object, () -> p.place(object));
                 Check.index(p, "isOpen " + object, () -> p.isOpen(object));
             }
-            p.addObject(1, count, 0);
         }
+        AdventureParser p = Worlds.with("red box 0", "blue box 0", "old box 0");
         Check.said(p, "open blue box", 1);
         Check.due("isOpen 0", p.isOpen(0), false);
         Check.due("isOpen 1", p.isOpen(1), true);
